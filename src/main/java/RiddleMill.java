@@ -41,7 +41,7 @@ public final class RiddleMill {
         this.worlds = new Worlds(this.places, this.sorts);
         this.proof = new Proof(this.places, this.sorts);
         this.trial = new Proof(this.places, this.sorts);
-        this.maker = new Maker(this.places, this.sorts, this.worlds, this.trial);
+        this.maker = new Maker(this.places, this.sorts);
         this.speech = new Speech();
     }
 
@@ -126,7 +126,7 @@ public final class RiddleMill {
         if (seed < 1 || seed > Maker.MODULUS - 1 || rating < 1 || rating > 5) {
             throw new IllegalArgumentException("no such seed or rating");
         }
-        int times = maker.find(seed, rating);
+        int times = maker.find(seed, rating, worlds, trial);
         if (times > 0) {
             clues.takeAll(maker.riddle);
         }
@@ -683,23 +683,19 @@ public final class RiddleMill {
 
         private final int places;
         private final int things;
-        private final Worlds worlds;
-        private final Proof proof;
         private final int[] at = new int[THING_ROOM];
         private final int[] possible = new int[MOST_POSSIBLE];
         private int possibleCount;
         private long drawn;
         final ClueList riddle = new ClueList();
 
-        Maker(int places, int sorts, Worlds worlds, Proof proof) {
+        Maker(int places, int sorts) {
             this.places = places;
             this.things = places * sorts;
-            this.worlds = worlds;
-            this.proof = proof;
         }
 
         /** How many times it took until a riddle of this rating was there; 0 if none was. */
-        int find(int seed, int rating) {
+        int find(int seed, int rating, Worlds worlds, Proof trial) {
             drawn = seed;
             for (int time = 1; time <= MOST_TIMES; time++) {
                 drawWorld();
@@ -710,10 +706,10 @@ public final class RiddleMill {
                     riddle.add(possible[k]);
                 }
                 if (!worlds.differ(riddle, NONE)) {
-                    thinOut();
+                    thinOut(worlds);
                 }
-                proof.run(riddle);
-                if (proof.reached == rating) {
+                trial.run(riddle);
+                if (trial.reached == rating) {
                     return time;
                 }
             }
@@ -799,7 +795,7 @@ public final class RiddleMill {
             }
         }
 
-        private void thinOut() {
+        private void thinOut(Worlds worlds) {
             for (int k = riddle.size - 1; k >= 0; k--) {
                 if (!worlds.differ(riddle, k)) {
                     riddle.removeAt(k);

@@ -75,7 +75,9 @@ public final class AnswerTest {
         Check.isTrue("the other of two", mill.needed(1));
         Check.equal("the clue stays", mill.clueAt(0, 1), 10);
         mill.clue(3, 10, 12, 0, 0, -1);
-        Check.isFalse("the others say different things", mill.needed(0) && mill.needed(1) && mill.needed(2));
+        for (int k = 0; k < 3; k++) {
+            Check.isFalse("no answer with it, one without clue " + k, mill.needed(k));
+        }
         mill.clue(0, 10, 12, 0, 0, -1);
         Check.isFalse("no answers without it", mill.needed(0));
         for (int k : new int[] {-1, 4, Integer.MIN_VALUE, Integer.MAX_VALUE}) {

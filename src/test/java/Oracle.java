@@ -50,7 +50,11 @@ final class Oracle {
         }
     }
 
-    private boolean says(int[] c, Map<Integer, Integer> at) {
+    World world(int index) {
+        return worlds.get(index % worlds.size());
+    }
+
+    boolean says(int[] c, Map<Integer, Integer> at) {
         int x = at.get(c[1]);
         int y = c[2] == 0 ? -9 : at.get(c[2]);
         int z = c[3] == 0 ? -9 : at.get(c[3]);

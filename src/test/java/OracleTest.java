@@ -58,9 +58,13 @@ public final class OracleTest {
         }
     }
 
-    private static void fill(RiddleMill mill, Oracle oracle, Random random, int most) {
+    /** Clues at random, or, with a world, such as are so in it. */
+    private static void fill(RiddleMill mill, Oracle oracle, Random random, int most, Oracle.World world) {
         for (int k = 0; k < most; k++) {
             int[] c = randomClue(oracle, random);
+            if (world != null && !oracle.says(c, world.at())) {
+                continue;
+            }
             try {
                 mill.clue(c[0], c[1], c[2], c[3], c[4], c[5]);
                 oracle.clues.add(c);
@@ -75,7 +79,7 @@ public final class OracleTest {
         for (int round = 0; round < rounds; round++) {
             RiddleMill mill = new RiddleMill(n, k);
             oracle.clues.clear();
-            fill(mill, oracle, random, 1 + random.nextInt(7));
+            fill(mill, oracle, random, 1 + random.nextInt(7), null);
             compare(n + "x" + k + " riddle " + round, mill, oracle);
             int gone = random.nextInt(oracle.clues.size());
             mill.drop(gone);
@@ -89,7 +93,8 @@ public final class OracleTest {
         for (int round = 0; round < rounds; round++) {
             RiddleMill mill = new RiddleMill(n, k);
             oracle.clues.clear();
-            fill(mill, oracle, random, random.nextInt(20));
+            Oracle.World world = round % 3 == 0 ? null : oracle.world(random.nextInt(60000));
+            fill(mill, oracle, random, random.nextInt(30), world);
             compareProofs(n + "x" + k + " proof " + round, mill, oracle);
         }
     }
@@ -100,10 +105,24 @@ public final class OracleTest {
         for (int round = 0; round < rounds; round++) {
             int seed = 1 + random.nextInt(2147483646);
             int rating = round % 2 == 0 ? 5 : 1 + random.nextInt(5);
-            String what = n + "x" + k + " make(" + seed + ", " + rating + ")";
-            Check.equal(what, mill.make(seed, rating), oracle.make(seed, rating));
-            compareClues(what, mill, oracle);
-            compareProofs(what, mill, oracle);
+            making(mill, oracle, seed, rating);
+        }
+    }
+
+    private static void making(RiddleMill mill, Oracle oracle, int seed, int rating) {
+        String what = oracle.n + "x" + oracle.k + " make(" + seed + ", " + rating + ")";
+        Check.equal(what, mill.make(seed, rating), oracle.make(seed, rating));
+        compareClues(what, mill, oracle);
+        compareProofs(what, mill, oracle);
+    }
+
+    /** Seeds of which 23 or 25 clues in place of 24 would make another riddle. */
+    private static void makingsOfJust24() {
+        for (int seed : new int[] {202, 678, 2031, 3159}) {
+            making(new RiddleMill(3, 3), new Oracle(3, 3), seed, 5);
+        }
+        for (int seed : new int[] {424, 1862}) {
+            making(new RiddleMill(4, 2), new Oracle(4, 2), seed, 5);
         }
     }
 
@@ -115,6 +134,7 @@ public final class OracleTest {
             proofs(size / 10, size % 10, 150, random);
             makings(size / 10, size % 10, large ? 6 : 30, random);
         }
+        makingsOfJust24();
         Check.done();
     }
 }
