@@ -9,7 +9,7 @@ public final class RiddleMill {
     private static final int LINE_ROOM = 60;
     private static final int NOT_AS_TOLD = -2;
 
-    /** Rows that are indexed by a thing's number, of which 35 is above the greatest. */
+    /** For rows that are indexed by a thing's number, the greatest of which is 33. */
     private static final int THING_ROOM = 40;
 
     private static final int SAME = 0;
