@@ -6,16 +6,40 @@ final class Check {
 
     private static int passed;
     private static int failed;
+    private static String test = "";
 
     private Check() {
+    }
+
+    /** One test with a name of its own: what it throws is a failure of this test, and the next one goes on. */
+    static void test(String name, Runnable body) {
+        test = name + ": ";
+        try {
+            body.run();
+        } catch (RuntimeException e) {
+            fail("threw " + e);
+        }
+        test = "";
+    }
+
+    private static void fail(String text) {
+        failed++;
+        System.out.println(test + text);
     }
 
     static void equal(String what, long got, long want) {
         if (got == want) {
             passed++;
         } else {
-            failed++;
-            System.out.println(what + " answered " + got + ", due is " + want);
+            fail(what + " answered " + got + ", due is " + want);
+        }
+    }
+
+    static void equal(String what, String got, String want) {
+        if (got.equals(want)) {
+            passed++;
+        } else {
+            fail(what + " is '" + got + "', due is '" + want + "'");
         }
     }
 
@@ -38,8 +62,7 @@ final class Check {
         if (got.equals(due.getName())) {
             passed++;
         } else {
-            failed++;
-            System.out.println(what + " threw " + got + ", due is " + due.getName());
+            fail(what + " threw " + got + ", due is " + due.getName());
         }
     }
 

@@ -12,6 +12,8 @@ public final class GrammarTest {
     private static final String[] FORMS = {"x is y", "x is not y", "x is left of y", "x is next to y", "x is d from y",
         "x is between y and z", "x is at d", "x is y or z", "x is either y or z", "x is under y in d"};
 
+    private static final int LINES_OF_A_MILL = 5;
+
     private static final Map<String, int[]> SENTENCES = new HashMap<>();
     private static final Set<String> BEGINNINGS = new HashSet<>();
 
@@ -109,21 +111,35 @@ public final class GrammarTest {
         return String.join(" ", words);
     }
 
-    public static void main(String[] args) {
-        listSentences();
+    /** A mill has 512 calls: enough for a few lines. */
+    private static RiddleMill named() {
         RiddleMill mill = new RiddleMill(3, 2);
         for (int k = 0; k < NAMES.length; k++) {
             Check.isTrue("name " + NAMES[k], mill.name(thing(k), Words.pack(NAMES[k])));
         }
-        for (String sentence : SENTENCES.keySet()) {
-            compare(mill, sentence);
+        return mill;
+    }
+
+    private static void compareAll(List<String> lines) {
+        for (int k = 0; k < lines.size(); k += LINES_OF_A_MILL) {
+            RiddleMill mill = named();
+            for (String line : lines.subList(k, Math.min(lines.size(), k + LINES_OF_A_MILL))) {
+                compare(mill, line);
+            }
         }
-        Random random = new Random(20261115);
+    }
+
+    public static void main(String[] args) {
+        listSentences();
         List<String> sentences = new ArrayList<>(new java.util.TreeSet<>(SENTENCES.keySet()));
+        compareAll(sentences);
+        Random random = new Random(20261115);
+        List<String> lines = new ArrayList<>();
         for (int round = 0; round < 20000; round++) {
             String line = spoilt(sentences.get(random.nextInt(sentences.size())), random);
-            compare(mill, random.nextInt(4) == 0 && !line.isEmpty() ? spoilt(line, random) : line);
+            lines.add(random.nextInt(4) == 0 && !line.isEmpty() ? spoilt(line, random) : line);
         }
+        compareAll(lines);
         Check.done();
     }
 }

@@ -101,11 +101,11 @@ public final class OracleTest {
 
     private static void makings(int n, int k, int rounds, Random random) {
         Oracle oracle = new Oracle(n, k);
-        RiddleMill mill = new RiddleMill(n, k);
         for (int round = 0; round < rounds; round++) {
             int seed = 1 + random.nextInt(2147483646);
             int rating = round % 2 == 0 ? 5 : 1 + random.nextInt(5);
-            making(mill, oracle, seed, rating);
+            oracle.clues.clear();
+            making(new RiddleMill(n, k), oracle, seed, rating);
         }
     }
 

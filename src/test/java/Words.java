@@ -22,8 +22,8 @@ final class Words {
 
     static String shown(RiddleMill mill) {
         StringBuilder text = new StringBuilder();
-        for (int k = 0; mill.shown(k) != RiddleMill.NONE; k++) {
-            text.append((char) mill.shown(k));
+        for (int c = mill.shown(0); c != RiddleMill.NONE; c = mill.shown(text.length())) {
+            text.append((char) c);
         }
         return text.toString();
     }
