@@ -336,6 +336,8 @@ public final class RiddleMill {
     private static final class Worlds {
         /** Two bits for each speaker, 1 he may lie, 2 he may tell the truth: nothing is known of either. */
         private static final int ANY_SPEAKERS = 15;
+        /** Far above the 57600 worlds that there are at most. */
+        private static final int NO_LIMIT = 1000000;
 
         private final int places;
         private final int things;
@@ -387,8 +389,8 @@ public final class RiddleMill {
         }
 
         private void prepare(ClueList clues, int skipped) {
-            limit = Integer.MAX_VALUE;
-            mostPlacings = Integer.MAX_VALUE;
+            limit = NO_LIMIT;
+            mostPlacings = NO_LIMIT;
             watched = NONE;
             counted = 0;
             placings = 0;

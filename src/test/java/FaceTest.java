@@ -6,13 +6,23 @@ import java.nio.file.Files;
 import java.nio.file.Path;
 import java.util.Set;
 import java.util.TreeSet;
+import java.util.regex.Matcher;
+import java.util.regex.Pattern;
 
 /** The public face, just as the document has it, and rules of LANGUAGE.md that can be seen in the class or its text. */
 public final class FaceTest {
-    private static final String FACE = "int NONE|RiddleMill(int,int)|int clue(int,int,int,int,int,int)|void drop(int)"
-        + "|int clueAt(int,int)|int count(int)|int answer(int)|boolean needed(int)|int prove()|int step(int,int)"
-        + "|int may(int)|int rating()|int make(int,int)|boolean name(int,long)|int print(int)|int shown(int)"
-        + "|int type(long)|int read()|int fault()|int about(int)";
+    private static final String FACE = "int NONE|RiddleMill(int,int)"
+        + "|int clue(int,int,int,int,int,int) throws(IllegalArgumentException,IllegalStateException)"
+        + "|void drop(int) throws(IndexOutOfBoundsException)|int clueAt(int,int)"
+        + "|int count(int) throws(IllegalArgumentException)|int answer(int)"
+        + "|boolean needed(int) throws(IndexOutOfBoundsException)|int prove()|int step(int,int)|int may(int)"
+        + "|int rating()|int make(int,int) throws(IllegalArgumentException)|boolean name(int,long)|int print(int)"
+        + "|int shown(int)|int type(long)|int read() throws(IllegalArgumentException,IllegalStateException)"
+        + "|int fault()|int about(int)";
+
+    /** All of the library that the class uses; LANGUAGE.md, rule 4, has each of these. */
+    private static final Set<String> LIBRARY =
+        Set.of("Math.max", "Math.min", "Integer.bitCount", "System.arraycopy");
 
     private static String types(Class<?>[] types) {
         StringBuilder text = new StringBuilder("(");
@@ -20,6 +30,11 @@ public final class FaceTest {
             text.append(k == 0 ? "" : ",").append(types[k].getSimpleName());
         }
         return text.append(')').toString();
+    }
+
+    private static String thrown(Method method) {
+        Class<?>[] types = method.getExceptionTypes();
+        return types.length == 0 ? "" : " throws" + types(types);
     }
 
     private static void face() {
@@ -37,7 +52,7 @@ public final class FaceTest {
             if (!Modifier.isPrivate(method.getModifiers())) {
                 names.add(method.getName());
                 seen.add(method.getReturnType().getSimpleName() + " " + method.getName()
-                    + types(method.getParameterTypes()));
+                    + types(method.getParameterTypes()) + thrown(method));
             }
         }
         Check.isTrue("the face is " + seen, seen.equals(new TreeSet<>(Set.of(FACE.split("\\|")))));
@@ -65,9 +80,18 @@ public final class FaceTest {
         }
     }
 
+    private static void library() throws Exception {
+        String text = Files.readString(Path.of("src/main/java/RiddleMill.java"));
+        Matcher use = Pattern.compile("\\b(Math|Integer|Long|System|Arrays|String|List)\\.\\w+").matcher(text);
+        while (use.find()) {
+            Check.isTrue(use.group() + " is of the library's part that is left", LIBRARY.contains(use.group()));
+        }
+    }
+
     public static void main(String[] args) throws Exception {
         face();
         text();
+        library();
         Check.done();
     }
 }
